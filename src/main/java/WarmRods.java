@@ -55,8 +55,7 @@ public final class WarmRods {
     private final History history = new History();
     private final Slot firstSlot = new Slot();
     private final Slot secondSlot = new Slot();
-    private final Pad pad = new Pad();
-    private final Reader reader = new Reader(pad);
+    private final Reader reader = new Reader();
     private final Drift scratch = new Drift();
 
     public WarmRods() {
@@ -123,7 +122,7 @@ public final class WarmRods {
             case 8: return clock.setting(AIR) + MORE_SETTING;
             case 9: return clock.setting(BASE) + MORE_SETTING;
             case 10: return clock.setting(LIMIT) + MORE_SETTING;
-            case 11: return pad.length;
+            case 11: return reader.pad.length;
             case 12: return history.kept;
             default: return BAD_VALUE;
         }
@@ -219,18 +218,18 @@ public final class WarmRods {
         if (signs == 0) {
             return BAD_VALUE;
         }
-        if (pad.length + signs > PAD_LENGTH) {
+        if (reader.pad.length + signs > PAD_LENGTH) {
             return TOO_MANY;
         }
         for (int sign = signs - 1; sign >= 0; sign--) {
-            pad.append((char) codeAt(characters, sign));
+            reader.pad.append((char) codeAt(characters, sign));
         }
-        return pad.length;
+        return reader.pad.length;
     }
 
     public int wipe() {
-        int length = pad.length;
-        pad.length = 0;
+        int length = reader.pad.length;
+        reader.pad.length = 0;
         return length;
     }
 
@@ -254,7 +253,7 @@ public final class WarmRods {
                 break;
             }
         }
-        pad.length = 0;
+        reader.pad.length = 0;
         return carriedOut;
     }
 
@@ -405,12 +404,9 @@ public final class WarmRods {
             written = other.written;
         }
 
-        /** A new latest hour, whose facts are all 0 at first. */
+        /** Begins a new latest hour; each of its facts has to be written then, over those of an hour long gone. */
         void open() {
             written++;
-            for (int what = 0; what < FACTS; what++) {
-                write(what, 0);
-            }
         }
 
         void write(int what, int number) {
@@ -645,7 +641,7 @@ public final class WarmRods {
      * The grammar never needs to look further ahead than one character, so that place is the fault.
      */
     private static final class Reader {
-        private final Pad pad;
+        private final Pad pad = new Pad();
         private int place;
         private int number;
         // The order that was read last: its letter, and what stands behind it.
@@ -654,10 +650,6 @@ public final class WarmRods {
         private int air;
         private int radio;
         private int hours;
-
-        Reader(Pad pad) {
-            this.pad = pad;
-        }
 
         void start() {
             place = 0;

@@ -212,7 +212,24 @@ public final class PromiseTests {
         due("4: all", x.count(3), 255);
         due("4: how often", x.count(4), 22);
 
-        // set() carries nothing: -1 leaves -600, which would show
+        // the limit holds on both sides
+        x = new WarmRods();
+        x.set(WarmRods.LIMIT, 36);
+        x.set(WarmRods.BASE, -10);
+        due("4: slow by the limit", x.pass(20, 1000, 1, 1), 0);
+        due("4: slow by more", x.pass(20, 1000, 1, 1), 1);
+
+        // of 0 and 1 the lighter one is taken first
+        x = new WarmRods();
+        x.set(WarmRods.LIMIT, 1);
+        x.weight(0);
+        x.weight(1);
+        due("4: fast by 3", x.pass(20, 1000, 1, 1), 1);
+        due("4: 0 is taken", x.count(3), 2);
+        due("4: fast by 2", x.pass(20, 1000, 1, 1), 1);
+        due("4: 1 is taken", x.count(3), 0);
+
+        // being set carries nothing: -1 leaves -600, which would show
         x = new WarmRods();
         x.set(WarmRods.LIMIT, 1);
         x.set(WarmRods.BASE, -1);
@@ -400,6 +417,30 @@ public final class PromiseTests {
         x.pass(21, 1000, 0, 1);
         due("9: greatest, gone", x.ofLog(0), 100001);
         due("9: least, latest", x.ofLog(1), 99989);
+        ofShortLogs();
+    }
+
+    private static void ofShortLogs() {
+        WarmRods x = new WarmRods();
+        x.pass(23, 1000, 0, 1); // -36
+        x.pass(21, 1000, 0, 1); // -12
+        x.pass(22, 1000, 0, 1); // -24
+        due("9: greatest of three slow ones", x.ofLog(0), 99988);
+        due("9: least of three slow ones", x.ofLog(1), 99964);
+        x.pass(18, 1000, 0, 1);
+        x.pass(19, 1000, 0, 1);
+        due("9: greatest, the second", x.ofLog(0), 100024);
+        x = new WarmRods();
+        x.pass(19, 1000, 0, 3);
+        due("9: least of fast ones", x.ofLog(1), 100012);
+        x.weight(4);
+        x.pass(20, 1000, 0, 47); // the oldest hour has no weight, all others have one
+        due("9: one other tray", x.ofLog(4), 1);
+        x.pass(20, 1000, 0, 1);
+        due("9: the other tray is gone", x.ofLog(4), 0);
+        x.weight(4);
+        x.pass(20, 1000, 0, 1);
+        due("9: the latest has another one", x.ofLog(4), 1);
     }
 
     private static void rate() {
@@ -429,6 +470,8 @@ public final class PromiseTests {
         due("11: none for 0", x.bestWeights(20, 1000, 0), 0);
         due("11: none for a fast hour", x.bestWeights(10, 1000, 0), 0);
         due("11: its rate", x.bestWeights(10, 1000, 1), 100120);
+        x.set(2, -1);
+        due("11: the lightest for -1", x.bestWeights(20, 1000, 0), 1);
         x.set(2, -255);
         due("11: all for -255", x.bestWeights(20, 1000, 0), 255);
         x.set(2, -500);
@@ -668,6 +711,13 @@ public final class PromiseTests {
         due("19: recorded anew", x.count(12), 1);
         due("19: undone anew", x.undo(), 0);
         due("19: again two", x.count(3), 3);
+        for (int base = 1; base < 9; base++) {
+            x.set(2, base);
+        }
+        for (int left = 5; left >= 0; left--) {
+            due("19: undo anew", x.undo(), left);
+            due("19: the base", x.count(9), 1002 + left);
+        }
         undoBringsAllBack();
         undoLeavesThePad();
     }
@@ -677,6 +727,8 @@ public final class PromiseTests {
         x.set(3, 30);
         x.weight(1);
         x.pass(19, 1005, 1, 60);
+        x.pass(19, 1002, 0, 2);
+        due("19: off and carried then", x.count(1) != RIGHT && x.count(2) != 1000 ? 1 : 0, 1);
         String before = told(x);
         x.pass(25, 900, 1, 50);
         due("19: differs", told(x).equals(before) ? 1 : 0, 0);
