@@ -159,6 +159,21 @@ public final class EdgesOfTerms extends Edges {
         due("0", setTo(BASE, 0).rate(20, 1000), NO_RATE);
     }
 
+    @Says(where = "Settings", words = "thousandths of a second (thousandths) by which the clock may be off")
+    static void limitMayBe() {
+        WarmRods x = plain(5, 18); // 18000 an hour
+        due("off by 18, LIMIT 18", x.pass(20, 1000, 1, 1), 0);
+        due("off by 36, LIMIT 18", x.pass(20, 1000, 1, 1), 1);
+        x.set(LIMIT, 17);
+        due("off by 18, LIMIT 17", x.pass(20, 1000, 1, 1), 1);
+        x = goBy(plain(5, 18), 0, 2);
+        due("off by 36, without the radio", x.count(1), RIGHT + 36);
+        x.set(LIMIT, 1);
+        due("another LIMIT sets nothing", x.count(1), RIGHT + 36);
+        x.set(LIMIT, 54);
+        due("off by 54, LIMIT 54", x.pass(20, 1000, 1, 1), 0);
+    }
+
     // ---- weights
 
     @Says(where = "Weights", words = "There are 8 weights, 0 to 7; each lies on the tray or not (at first not).")
@@ -392,6 +407,24 @@ public final class EdgesOfTerms extends Edges {
             y.weight(lightest);
             y.pass(20, 1000, 1, 1);
             due(lightest + " of " + lightest + " and 7", y.count(3), 127);
+        }
+    }
+
+    // NOTES.md tells why it is the clock that counts here, and not the hour's rate.
+    @Says(where = "Hours", words = "if the clock was fast, the lightest weight that lies on the tray is taken; if it was slow, the "
+        + "lightest one that does not lie there is laid")
+    static void fastOrSlowIsTheClock() {
+        for (int rate : new int[] {-2, 0, 2}) {
+            WarmRods fast = goBy(plain(500, 1), 0, 1); // 1800
+            fast.set(BASE, rate - 8);
+            fast.weight(3);
+            due("fast by 1800, an hour of " + rate, fast.pass(20, 1000, 1, 1), 1);
+            due("the weight is taken", fast.count(3), 0);
+            WarmRods slow = goBy(plain(-500, 1), 0, 1); // -1800
+            slow.set(BASE, rate - 8);
+            slow.weight(3);
+            due("slow by 1800, an hour of " + rate, slow.pass(20, 1000, 1, 1), 1);
+            due("a weight is laid", slow.count(3), 9);
         }
     }
 

@@ -30,7 +30,19 @@ public final class EdgesOfTexts extends Edges {
         return write(x, text).carryOut();
     }
 
-    // ---- the grammar
+    // ---- the pad and the grammar
+
+    @Says(where = "Texts", words = "The pad is a text of at most 80 characters")
+    static void lengthOfThePad() {
+        WarmRods x = new WarmRods();
+        for (int length = 1; length <= 80; length++) {
+            due("character " + length, x.put(length % 2 == 1 ? 'z' : ';'), length);
+            due("fault of " + length, x.fault(), length % 2 == 1 ? NONE : length);
+        }
+        due("character 81", x.put('z'), TOO_MANY);
+        due("80 of them", x.count(11), 80);
+        due("fault of 80", x.fault(), 80);
+    }
 
     @Says(where = "Texts", words = "text = order { \";\" order }")
     static void rowOfOrders() {

@@ -27,6 +27,19 @@ public final class EdgesOfWhatThereIs extends Edges {
         return Double.doubleToLongBits((double) sum / (double) hours);
     }
 
+    @Says(where = "Ahead of the calls", words = "what there is.")
+    static void nothingChangesByAsking() {
+        WarmRods asked = used();
+        for (int what = 0; what < 13; what++) {
+            asked.count(what);
+            asked.hour(0, what);
+            asked.hour(47, what);
+            asked.ofLog(what);
+        }
+        asked.meanRate();
+        same("behind all of them", whole(asked), whole(used()));
+    }
+
     // ---- promise 6
 
     @Says(where = "Promise 6", words = "`ago`: 0 for the latest one")
