@@ -8,7 +8,7 @@ import java.util.function.IntToLongFunction;
 import java.util.function.Supplier;
 import java.util.function.ToLongFunction;
 
-/** What the tests of the boundary cases have in common: each one of them names its sentence by Says. */
+/** What the tests of the sentences have in common: each one of them names its own by Says. */
 abstract class Edges {
     static final int NO_SUCH = -1, BAD_VALUE = -2, BAD_TEXT = -3, TOO_MANY = -4, NOT_POSSIBLE = -5, NONE = -6;
     static final int ROD = 0, AIR = 1, BASE = 2, LIMIT = 3;
@@ -29,20 +29,24 @@ abstract class Edges {
         Arrays.sort(methods, Comparator.comparing(Method::getName));
         int sentences = 0;
         for (Method method : methods) {
-            Says says = method.getAnnotation(Says.class);
-            if (says != null) {
+            Says[] says = method.getAnnotationsByType(Says.class);
+            if (says.length > 0) {
                 sentences++;
                 run(method, says);
             }
         }
-        System.out.println(wrong == 0 ? sentences + " boundary cases hold" : wrong + " answers are not as due");
+        System.out.println(wrong == 0 ? sentences + " tests hold" : wrong + " answers are not as due");
         if (wrong != 0 || sentences == 0) {
             System.exit(1);
         }
     }
 
-    private static void run(Method method, Says says) {
-        sentence = says.where() + ", \"" + says.words() + "\" (" + method.getName() + ")";
+    private static void run(Method method, Says[] says) {
+        sentence = "";
+        for (Says one : says) {
+            sentence += one.where() + ", \"" + one.words() + "\" ";
+        }
+        sentence += "(" + method.getName() + ")";
         int before = asked;
         try {
             method.setAccessible(true);

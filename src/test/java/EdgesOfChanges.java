@@ -1,4 +1,4 @@
-/** The boundary cases of promises 1 to 5: a new object, and the changes. */
+/** The sentences of promises 1 to 5: a new object, and the changes. */
 public final class EdgesOfChanges extends Edges {
     public static void main(String[] args) {
         runAll(EdgesOfChanges.class);
@@ -7,6 +7,28 @@ public final class EdgesOfChanges extends Edges {
     /** A clock by which that many hours of 20 degrees have gone. */
     private static WarmRods behind(int hours) {
         return goBy(new WarmRods(), 0, hours);
+    }
+
+    @Says(where = "Ahead of the calls", words = "Ahead of the calls `set`, `weight`, `pass`, `zero` the interface says: ---- changes.")
+    static void changes() {
+        WarmRods x = new WarmRods();
+        x.set(BASE, 5);
+        due("behind set", x.count(12), 1);
+        x.weight(2);
+        due("behind weight", x.count(12), 2);
+        x.pass(20, 1000, 0, 5);
+        due("behind pass", x.count(12), 3);
+        x.zero();
+        due("behind zero", x.count(12), 4);
+        due("off", x.count(1), RIGHT);
+        x.undo();
+        due("off, without zero", x.count(1), RIGHT + 162); // 9 * 5 * 3.6
+        x.undo();
+        due("hours, without pass", x.count(0), 0);
+        x.undo();
+        due("tray, without weight", x.count(3), 0);
+        x.undo();
+        due("BASE, without set", x.count(9), 1000);
     }
 
     // ---- promise 1

@@ -1,7 +1,108 @@
-/** The boundary cases that the document names under its terms, but for the texts: they hold for all promises. */
+/** The sentences ahead of the promises, but for the texts: what it is, and its terms. They hold for all promises. */
 public final class EdgesOfTerms extends Edges {
     public static void main(String[] args) {
         runAll(EdgesOfTerms.class);
+    }
+
+    // ---- 512 calls
+
+    /** A clock after as many calls, by which an hour has gone, and that has something saved and something on its pad. */
+    private static WarmRods calledSoOften(int calls) {
+        WarmRods x = new WarmRods();
+        for (int i = 5; i < calls; i++) {
+            x.zero();
+        }
+        x.set(BASE, 2);
+        x.weight(0);
+        x.pass(20, 1000, 1, 1); // 10800
+        x.save(1);
+        x.put('z');
+        return x;
+    }
+
+    @Says(where = "What it is", words = "An object is used for at most 512 calls after it has been made")
+    static void eachMethodAsThe512thCall() {
+        due("set", calledSoOften(511).set(BASE, 0), 1002);
+        due("weight", calledSoOften(511).weight(7), 1);
+        due("pass", calledSoOften(511).pass(20, 1000, 1, 99), 1); // beyond 500 once, and then 2 millionths
+        due("zero", calledSoOften(511).zero(), RIGHT + 10);
+        due("hour", calledSoOften(511).hour(0, 3), NO_RATE + 3);
+        due("count", calledSoOften(511).count(2), 1800);
+        due("meanRate", calledSoOften(511).meanRate(), Double.doubleToLongBits(3.0));
+        due("ofLog", calledSoOften(511).ofLog(2), 1);
+        due("rate", calledSoOften(511).rate(21, 1000), NO_RATE + 3 - 12);
+        due("bestWeights", calledSoOften(511).bestWeights(21, 1000, 0), 10);
+        due("offIn", calledSoOften(511).offIn(20, 1000), 46); // 10.8 and 46 * 10.8
+        due("replay", calledSoOften(511).replay(), RIGHT + 10);
+        due("coolest", calledSoOften(511).coolest(1000), 121);
+        due("put", calledSoOften(511).put(';'), 2);
+        due("wipe", calledSoOften(511).wipe(), 1);
+        due("fault", calledSoOften(511).fault(), NONE);
+        due("carryOut", calledSoOften(511).carryOut(), 1);
+        due("undo", calledSoOften(511).undo(), 5);
+        due("save", calledSoOften(511).save(0), 1);
+        due("restore", calledSoOften(511).restore(1), 1);
+    }
+
+    @Says(where = "What it is", words = "An object is used for at most 512 calls after it has been made")
+    static void changesIn512Calls() {
+        WarmRods weights = new WarmRods();
+        for (int call = 1; call <= 512; call++) {
+            due("weight, call " + call, weights.weight(7), call % 2);
+        }
+        WarmRods hours = new WarmRods();
+        for (int call = 1; call <= 512; call++) {
+            due("pass, call " + call, hours.pass(20, 1000, 1, 99), call <= 101 ? 0 : NOT_POSSIBLE);
+        }
+        WarmRods pad = new WarmRods();
+        for (int call = 1; call <= 512; call++) {
+            due("put, call " + call, pad.put('z'), call <= 80 ? call : TOO_MANY);
+        }
+        WarmRods saved = new WarmRods();
+        for (int call = 1; call <= 512; call += 2) {
+            due("save, call " + call, saved.save(0), 0);
+            due("restore, call " + (call + 1), saved.restore(0), 0);
+        }
+    }
+
+    // ---- conventions
+
+    @Says(where = "CONVENTIONS", words = "CONVENTIONS. A method that fails returns one of the error codes NO_SUCH (-1), BAD_VALUE (-2), "
+        + "BAD_TEXT (-3), TOO_MANY (-4) and NOT_POSSIBLE (-5)")
+    static void codesOfErrors() {
+        due("weight(8)", new WarmRods().weight(8), -1);
+        due("hour(0, 0) without hours", new WarmRods().hour(0, 0), -1);
+        due("set(4, 0)", new WarmRods().set(4, 0), -2);
+        due("pass(51, 1000, 0, 1)", new WarmRods().pass(51, 1000, 0, 1), -2);
+        due("hour(0, 7)", goBy(new WarmRods(), 0, 1).hour(0, 7), -2);
+        due("count(13)", new WarmRods().count(13), -2);
+        due("ofLog(5)", new WarmRods().ofLog(5), -2);
+        due("rate(51, 1000)", new WarmRods().rate(51, 1000), -2);
+        due("bestWeights(51, 1000, 0)", new WarmRods().bestWeights(51, 1000, 0), -2);
+        due("offIn(51, 1000)", new WarmRods().offIn(51, 1000), -2);
+        due("coolest(799)", new WarmRods().coolest(799), -2);
+        due("put(0)", new WarmRods().put(0L), -2);
+        due("save(2)", new WarmRods().save(2), -2);
+        due("restore(2)", new WarmRods().restore(2), -2);
+        due("carryOut() of an empty pad", new WarmRods().carryOut(), -3);
+        due("put('z') on a full pad", write(new WarmRods(), "z".repeat(80)).put('z'), -4);
+        due("pass() beyond all hours", goBy(new WarmRods(), 0, ALL_HOURS).pass(20, 1000, 0, 1), -5);
+        due("undo() of nothing", new WarmRods().undo(), -5);
+        due("restore(0) of nothing", new WarmRods().restore(0), -5);
+    }
+
+    @Says(where = "CONVENTIONS", words = "it names its errors in the order in which they are checked, and the first one that applies is "
+        + "returned.")
+    static void firstErrorThatApplies() {
+        WarmRods full = write(goBy(new WarmRods(), 0, ALL_HOURS), "z".repeat(80));
+        due("pass: BAD_VALUE, NOT_POSSIBLE", full.pass(20, 1000, 0, 100), BAD_VALUE);
+        due("pass: NOT_POSSIBLE alone", full.pass(20, 1000, 0, 99), NOT_POSSIBLE);
+        due("hour: NO_SUCH, BAD_VALUE", full.hour(48, 7), NO_SUCH);
+        due("hour: BAD_VALUE alone", full.hour(47, 7), BAD_VALUE);
+        due("put: BAD_VALUE, TOO_MANY", full.put(32L), BAD_VALUE);
+        due("put: TOO_MANY alone", full.put('!'), TOO_MANY);
+        due("restore: BAD_VALUE, NOT_POSSIBLE", full.restore(2), BAD_VALUE);
+        due("restore: NOT_POSSIBLE alone", full.restore(1), NOT_POSSIBLE);
     }
 
     @Says(where = "CONVENTIONS", words = "Everything is numbered from 0.")
@@ -46,6 +147,17 @@ public final class EdgesOfTerms extends Edges {
         due("coolest(1201)", x.coolest(1201), BAD_VALUE);
     }
 
+    @Says(where = "CONVENTIONS", words = "Rates are told in millionths (of a second in a second)")
+    static void millionths() {
+        WarmRods x = plain(1, 5000);
+        due("1 millionth", x.rate(20, 1000), NO_RATE + 1);
+        due("of the 3600 seconds of 5 hours: 18 thousandths", goBy(x, 0, 5).count(1), RIGHT + 18);
+        due("of 1000 hours: 3600 thousandths", goBy(x, 0, 995).count(1), RIGHT + 3600);
+        due("told by the hour", x.hour(0, 3), NO_RATE + 1);
+        due("the mean", x.meanRate(), Double.doubleToLongBits(1.0));
+        due("the greatest", x.ofLog(0), NO_RATE + 1);
+    }
+
     @Says(where = "CONVENTIONS", words = "above 0 the clock is fast.")
     static void fastAbove0() {
         due("of 1", goBy(plain(1, 500), 0, 1).ofLog(2), 1);
@@ -83,6 +195,49 @@ public final class EdgesOfTerms extends Edges {
     }
 
     // ---- settings
+
+    @Says(where = "Settings", words = "(In parentheses: range; first value.)")
+    static void rangesAndFirstValues() {
+        int[] least = {0, 0, -500, 1};
+        int[] greatest = {99, 99, 500, 5000};
+        int[] first = {12, 15, 0, 500};
+        for (int setting = ROD; setting <= LIMIT; setting++) {
+            int which = setting;
+            due("first value of " + setting, new WarmRods().count(7 + setting), first[setting] + 1000);
+            range("set(" + setting + ")", least[setting], greatest[setting], BAD_VALUE, value -> new WarmRods().set(which, value));
+        }
+        due("the first values give the first rate", new WarmRods().rate(30, 1100), NO_RATE - 120 - 150);
+    }
+
+    @Says(where = "Texts", words = "`ROD = 0, AIR = 1, BASE = 2, LIMIT = 3`: Settings.")
+    static void settingsByTheirConstants() {
+        due("ROD", WarmRods.ROD, 0);
+        due("AIR", WarmRods.AIR, 1);
+        due("BASE", WarmRods.BASE, 2);
+        due("LIMIT", WarmRods.LIMIT, 3);
+        WarmRods x = plain(0, 500);
+        x.set(WarmRods.ROD, 2);
+        due("2 slower for a degree", x.rate(21, 1000), NO_RATE - 2);
+        x.set(WarmRods.AIR, 3);
+        due("3 slower for 10 units", x.rate(20, 1010), NO_RATE - 3);
+        x.set(WarmRods.BASE, 5);
+        due("5 at 20 degrees", x.rate(20, 1000), NO_RATE + 5);
+        x.set(WarmRods.LIMIT, 17);
+        due("off by 18 in an hour", x.offIn(20, 1000), 1);
+    }
+
+    @Says(where = "The constants", words = "The constants: `NO_SUCH = -1, BAD_VALUE = -2, BAD_TEXT = -3, TOO_MANY = -4, "
+        + "NOT_POSSIBLE = -5, NONE = -6`: Error codes, and NONE: there is none.")
+    static void codesByTheirConstants() {
+        due("NO_SUCH", WarmRods.NO_SUCH, -1);
+        due("BAD_VALUE", WarmRods.BAD_VALUE, -2);
+        due("BAD_TEXT", WarmRods.BAD_TEXT, -3);
+        due("TOO_MANY", WarmRods.TOO_MANY, -4);
+        due("NOT_POSSIBLE", WarmRods.NOT_POSSIBLE, -5);
+        due("NONE", WarmRods.NONE, -6);
+        due("there is no fault", write(new WarmRods(), "z").fault(), WarmRods.NONE);
+        due("there are no hours", new WarmRods().ofLog(0), WarmRods.NONE);
+    }
 
     @Says(where = "Settings", words = "ROD (0 to 99; 12)")
     static void rangeOfRod() {
@@ -272,7 +427,7 @@ public final class EdgesOfTerms extends Edges {
         due("hours at a time carry, too", goBy(plain(1, 500), 0, 5).count(1), RIGHT + 18);
     }
 
-    @Says(where = "Hours", words = "what is left over by 1000 then (with its sign) is carried to the next hour")
+    @Says(where = "Hours", words = ", and what is left over by 1000 then (with its sign) is carried to the next hour.")
     static void carriedWithItsSign() {
         WarmRods x = plain(-1, 500);
         int[] off = {-3, -7, -10, -14, -18, -21};
@@ -411,8 +566,8 @@ public final class EdgesOfTerms extends Edges {
     }
 
     // NOTES.md tells why it is the clock that counts here, and not the hour's rate.
-    @Says(where = "Hours", words = "if the clock was fast, the lightest weight that lies on the tray is taken; if it was slow, the "
-        + "lightest one that does not lie there is laid")
+    @Says(where = "Hours", words = "and a weight is laid or taken by rule: if the clock was fast, the lightest weight that lies on the "
+        + "tray is taken; if it was slow, the lightest one that does not lie there is laid")
     static void fastOrSlowIsTheClock() {
         for (int rate : new int[] {-2, 0, 2}) {
             WarmRods fast = goBy(plain(500, 1), 0, 1); // 1800

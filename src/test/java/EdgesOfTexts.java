@@ -1,4 +1,6 @@
-/** The boundary cases of the texts, and of promises 15 to 18. */
+import java.util.List;
+
+/** The sentences on the texts, and of promises 15 to 18. */
 public final class EdgesOfTexts extends Edges {
     private static final String DIGITS = "0123456789";
 
@@ -30,9 +32,26 @@ public final class EdgesOfTexts extends Edges {
         return write(x, text).carryOut();
     }
 
+    // ---- what the calls of texts are about
+
+    @Says(where = "Ahead of the calls", words = "Ahead of the calls `put`, `wipe`, `fault`, `carryOut` the interface says: ---- texts.")
+    static void onlyTexts() {
+        WarmRods x = used();
+        x.wipe();
+        List<Long> before = whole(x);
+        x = used();
+        x.put(coded(";w1;b500"));
+        x.fault();
+        x.put(coded(";w8"));
+        x.fault();
+        x.carryOut();
+        x.wipe();
+        same("put(), wipe(), fault(), and carryOut() of a fault", whole(x), before);
+    }
+
     // ---- the pad and the grammar
 
-    @Says(where = "Texts", words = "The pad is a text of at most 80 characters")
+    @Says(where = "Texts", words = "The pad is a text of at most 80 characters, a row of orders:")
     static void lengthOfThePad() {
         WarmRods x = new WarmRods();
         for (int length = 1; length <= 80; length++) {
@@ -319,6 +338,8 @@ public final class EdgesOfTexts extends Edges {
     }
 
     @Says(where = "Promise 15", words = "or a bit above 8 bits that are 0 is not 0")
+    @Says(where = "Promise 15", words = "8 bits that are 0 mean that there are no more characters, and everything above them has to be "
+        + "0, too.")
     static void bitsAboveTheEnd() {
         for (int many = 1; many <= 6; many++) {
             long text = coded("abcdefgh".substring(0, many));
@@ -330,7 +351,8 @@ public final class EdgesOfTexts extends Edges {
         due("8 characters have no end", new WarmRods().put(coded("~~~~~~~~")), 8);
     }
 
-    @Says(where = "Promise 15", words = "its lowest 8 bits are the last character, the next 8 bits the one before, and so on")
+    @Says(where = "Promise 15", words = "They are given as a number: its lowest 8 bits are the last character, the next 8 bits the "
+        + "one before, and so on")
     static void orderOfCharacters() {
         WarmRods x = new WarmRods();
         due("w3", x.put((long) 'w' << 8 | '3'), 2);
@@ -340,6 +362,21 @@ public final class EdgesOfTexts extends Edges {
         due("is carried out", x.carryOut(), 3);
         due("3 and 6", x.count(3), 72);
         due("-17", x.count(9), 983);
+    }
+
+    @Says(where = "Promise 15", words = "Returns the length of the pad then")
+    static void lengthThen() {
+        WarmRods x = new WarmRods();
+        due("1", x.put('z'), 1);
+        due("8 more", x.put(coded(";z;z;z;z")), 9);
+        due("3 more", x.put(coded(";z;")), 12);
+        due("as count tells", x.count(11), 12);
+        x.wipe();
+        due("2, on an empty pad", x.put(coded("zz")), 2);
+        x.wipe();
+        write(x, "z;z");
+        x.carryOut();
+        due("2, behind carryOut()", x.put(coded("w1")), 2);
     }
 
     @Says(where = "Promise 15", words = "TOO_MANY if the pad would be longer than 80")

@@ -1,7 +1,7 @@
 import java.util.List;
 import java.util.function.Consumer;
 
-/** The boundary cases of promises 19 to 21: undo, saving. */
+/** The sentences of promises 19 to 21: undo, saving. */
 public final class EdgesOfUndo extends Edges {
     public static void main(String[] args) {
         runAll(EdgesOfUndo.class);
@@ -23,6 +23,22 @@ public final class EdgesOfUndo extends Edges {
         WarmRods x = used();
         x.wipe();
         return x;
+    }
+
+    @Says(where = "Ahead of the calls", words = "Ahead of the calls `undo`, `save`, `restore` the interface says: ---- undo, saving.")
+    static void onlyUndoAndSaving() {
+        WarmRods x = used();
+        List<Long> before = told(x);
+        int pad = x.count(11);
+        x.save(0);
+        same("behind save(0)", told(x), before);
+        x.weight(0);
+        x.undo();
+        same("behind undo()", told(x), before);
+        x.restore(0);
+        same("behind restore(0)", told(x), before);
+        due("the pad", x.count(11), pad);
+        due("its text", x.carryOut(), 3);
     }
 
     // ---- promise 19
@@ -281,6 +297,16 @@ public final class EdgesOfUndo extends Edges {
 
     // ---- promise 20
 
+    @Says(where = "Promise 20", words = "`slot`: 0 or 1")
+    static void bothSlotsOfSave() {
+        WarmRods x = plain(0, 1, 2);
+        due("save(0)", x.save(0), 4);
+        x.weight(3);
+        due("save(1)", x.save(1), 12);
+        due("what lies in 0", x.restore(0), 4);
+        due("what lies in 1", x.restore(1), 12);
+    }
+
     @Says(where = "Promise 20", words = "BAD_VALUE if there is no such slot")
     static void slotsOfSave() {
         range("slot", 0, 1, BAD_VALUE, slot -> new WarmRods().save(slot));
@@ -366,6 +392,18 @@ public final class EdgesOfUndo extends Edges {
     }
 
     // ---- promise 21
+
+    @Says(where = "Promise 21", words = "`slot`: 0 or 1")
+    static void bothSlotsOfRestore() {
+        WarmRods x = plain(0, 1, 5);
+        x.save(1);
+        x.weight(6);
+        x.save(0);
+        x.weight(7);
+        due("restore(1)", x.restore(1), 32);
+        due("restore(0)", x.restore(0), 96);
+        due("restore(1) again", x.restore(1), 32);
+    }
 
     @Says(where = "Promise 21", words = "BAD_VALUE if there is no such slot; NOT_POSSIBLE if nothing was saved in it.")
     static void slotsOfRestore() {

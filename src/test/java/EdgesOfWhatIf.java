@@ -1,4 +1,4 @@
-/** The boundary cases of promises 10 to 14: what if; nothing changes. */
+/** The sentences of promises 10 to 14: what if; nothing changes. */
 public final class EdgesOfWhatIf extends Edges {
     public static void main(String[] args) {
         runAll(EdgesOfWhatIf.class);
@@ -11,7 +11,8 @@ public final class EdgesOfWhatIf extends Edges {
         return x;
     }
 
-    @Says(where = "Ahead of the calls", words = "what if; nothing changes.")
+    @Says(where = "Ahead of the calls", words = "Ahead of the calls `rate`, `bestWeights`, `offIn`, `replay`, `coolest` the "
+        + "interface says: ---- what if; nothing changes.")
     static void nothingChanges() {
         WarmRods asked = used();
         asked.rate(-20, 800);
@@ -36,6 +37,7 @@ public final class EdgesOfWhatIf extends Edges {
     }
 
     @Says(where = "Promise 10", words = "Returns the rate of an hour now.")
+    @Says(where = "Promise 10", words = "Returns the rate, and 100000")
     static void rateOfNow() {
         WarmRods x = new WarmRods();
         due("at first, the coldest and thinnest", x.rate(-20, 800), NO_RATE + 480 + 300);
@@ -64,6 +66,7 @@ public final class EdgesOfWhatIf extends Edges {
     }
 
     @Says(where = "Promise 11", words = "`what`: 0 the set, 1 the rate, and 100000")
+    @Says(where = "Promise 11", words = "Returns the number")
     static void whatOfBestWeights() {
         range("what", 0, 1, BAD_VALUE, what -> new WarmRods().bestWeights(20, 1000, what));
         due("the set for -1", plain(-1, 500).bestWeights(20, 1000, 0), 1);
@@ -128,7 +131,7 @@ public final class EdgesOfWhatIf extends Edges {
         due("by 3, LIMIT 2, and it would be less", x.offIn(20, 1000), 0);
     }
 
-    @Says(where = "Promise 12", words = "would be off by more than LIMIT")
+    @Says(where = "Promise 12", words = "Tells in how many hours the clock would be off by more than LIMIT")
     static void moreThanLimit() {
         due("3 in an hour, LIMIT 2", plain(1, 2).offIn(20, 1000), 1);
         due("3 in an hour, LIMIT 3", plain(1, 3).offIn(20, 1000), 2);
@@ -140,7 +143,7 @@ public final class EdgesOfWhatIf extends Edges {
         due("-1800 in an hour, LIMIT 5000", plain(-500, 5000).offIn(20, 1000), 3);
     }
 
-    @Says(where = "Promise 12", words = "would be off by more than LIMIT, if all hours were such")
+    @Says(where = "Promise 12", words = "the clock would be off by more than LIMIT, if all hours were such")
     static void throughRight() {
         WarmRods slow = goBy(plain(-1, 3), 0, 1);
         slow.set(BASE, 1);
@@ -192,7 +195,7 @@ public final class EdgesOfWhatIf extends Edges {
 
     // ---- promise 13
 
-    @Says(where = "Promise 13", words = "if the hours of the log had gone by anew")
+    @Says(where = "Promise 13", words = "Tells by how much the clock would be off if the hours of the log had gone by anew")
     static void replayOfNoHours() {
         due("a new clock", new WarmRods().replay(), RIGHT);
         WarmRods x = goBy(plain(500, 5000), 0, 1);
@@ -215,6 +218,19 @@ public final class EdgesOfWhatIf extends Edges {
         due("the oldest one of 48", x.replay(), RIGHT - 2376);
         x.pass(20, 1000, 0, 1);
         due("none of them left", x.replay(), RIGHT);
+    }
+
+    @Says(where = "Promise 13", words = "Returns the thousandths, and 1000000000.")
+    static void thousandthsOfReplay() {
+        due("fast by 3.6", goBy(plain(1, 500), 0, 1).replay(), RIGHT + 3);
+        due("slow by 3.6", goBy(plain(-1, 500), 0, 1).replay(), RIGHT - 3);
+        due("fast by 48 times 3.6", goBy(plain(1, 500), 0, 48).replay(), RIGHT + 172);
+        due("right", goBy(plain(0, 500), 0, 48).replay(), RIGHT);
+        WarmRods x = goBy(plain(0, 500), 0, 48);
+        x.set(BASE, 500);
+        due("fast by 48 times 1800", x.replay(), RIGHT + 86400);
+        x.set(BASE, -500);
+        due("slow by 48 times 1800", x.replay(), RIGHT - 86400);
     }
 
     @Says(where = "Promise 13", words = "from the oldest one on")
@@ -277,6 +293,15 @@ public final class EdgesOfWhatIf extends Edges {
     }
 
     // ---- promise 14
+
+    @Says(where = "Promise 14", words = "Returns the heat, and 100")
+    static void heatAnd100() {
+        due("-20", plain(0, 500).coolest(1000), 80);
+        due("-1", byDegrees(-21).coolest(1000), 99);
+        due("0", byDegrees(-20).coolest(1000), 100);
+        due("1", byDegrees(-19).coolest(1000), 101);
+        due("50", byDegrees(30).coolest(1000), 150);
+    }
 
     @Says(where = "Promise 14", words = "BAD_VALUE if air is out of range")
     static void rangeOfCoolest() {

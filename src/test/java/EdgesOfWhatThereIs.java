@@ -1,4 +1,4 @@
-/** The boundary cases of promises 6 to 9: what there is. */
+/** The sentences of promises 6 to 9: what there is. */
 public final class EdgesOfWhatThereIs extends Edges {
     public static void main(String[] args) {
         runAll(EdgesOfWhatThereIs.class);
@@ -27,7 +27,8 @@ public final class EdgesOfWhatThereIs extends Edges {
         return Double.doubleToLongBits((double) sum / (double) hours);
     }
 
-    @Says(where = "Ahead of the calls", words = "what there is.")
+    @Says(where = "Ahead of the calls", words = "Ahead of the calls `hour`, `count`, `meanRate`, `ofLog` the interface says: ---- "
+        + "what there is.")
     static void nothingChangesByAsking() {
         WarmRods asked = used();
         for (int what = 0; what < 13; what++) {
@@ -79,7 +80,23 @@ public final class EdgesOfWhatThereIs extends Edges {
         due("hour(47, 7)", x.hour(47, 7), BAD_VALUE);
     }
 
-    @Says(where = "Promise 6", words = "0 its heat and 100")
+    @Says(where = "Promise 6", words = "Returns something about an hour of the log.")
+    @Says(where = "Promise 6", words = "Returns the number")
+    static void allOfTwoHours() {
+        WarmRods x = plain(5, 20, 1);
+        x.set(ROD, 2);
+        x.set(AIR, 3);
+        x.pass(19, 1010, 0, 1); // 5 + 2 - 3 + 2
+        x.pass(21, 980, 1, 1); // 5 - 2 + 6 + 2
+        long[] older = {119, 1010, 0, NO_RATE + 6, RIGHT + 21, 0, 2};
+        long[] latest = {121, 980, 1, NO_RATE + 11, RIGHT + 61, 1, 2}; // 600 and 39600
+        for (int what = 0; what < 7; what++) {
+            due("hour(1, " + what + ")", x.hour(1, what), older[what]);
+            due("hour(0, " + what + ")", x.hour(0, what), latest[what]);
+        }
+    }
+
+    @Says(where = "Promise 6", words = "`what`: 0 its heat and 100")
     static void heatOfHour() {
         for (int heat : new int[] {-20, -1, 0, 50}) {
             WarmRods x = new WarmRods();
@@ -170,7 +187,26 @@ public final class EdgesOfWhatThereIs extends Edges {
         range("what, of a used clock", 0, 12, BAD_VALUE, what -> used().count(what));
     }
 
-    @Says(where = "Promise 7", words = "0 hours so far")
+    @Says(where = "Promise 7", words = "Returns a number.")
+    @Says(where = "Promise 7", words = "Returns the number")
+    static void allNumbers() {
+        WarmRods x = new WarmRods();
+        x.set(ROD, 1);
+        x.set(AIR, 2);
+        x.set(BASE, 3);
+        x.set(LIMIT, 4);
+        x.weight(5);
+        x.pass(20, 1000, 1, 1); // 35: set, and 5 is taken
+        x.pass(20, 1000, 0, 60); // 3
+        x.pass(19, 1000, 0, 1); // 4
+        write(x, "z;w");
+        long[] due = {62, RIGHT + 662, 1400, 0, 1, 48, 1, 1001, 1002, 1003, 1004, 3, 6};
+        for (int what = 0; what < 13; what++) {
+            due("count(" + what + ")", x.count(what), due[what]);
+        }
+    }
+
+    @Says(where = "Promise 7", words = "`what`: 0 hours so far")
     static void hoursSoFar() {
         due("none", new WarmRods().count(0), 0);
         due("one", goBy(new WarmRods(), 0, 1).count(0), 1);
@@ -288,7 +324,8 @@ public final class EdgesOfWhatThereIs extends Edges {
         due("the hour undone", x.meanRate(), 0L);
     }
 
-    @Says(where = "Promise 8", words = "of the sum of their rates, as a double, divided by how many they are, as a double")
+    @Says(where = "Promise 8", words = "the bits, as Double.doubleToLongBits tells them, of the sum of their rates, as a double, divided "
+        + "by how many they are, as a double")
     static void meanOfRates() {
         due("of 1", hoursOf(1).meanRate(), 0x3FF0000000000000L);
         due("of -1", hoursOf(-1).meanRate(), 0xBFF0000000000000L);
@@ -355,7 +392,22 @@ public final class EdgesOfWhatThereIs extends Edges {
         }
     }
 
-    @Says(where = "Promise 9", words = "0 the greatest rate and 100000")
+    @Says(where = "Promise 9", words = "Returns something about the hours of the log.")
+    @Says(where = "Promise 9", words = "Returns the number")
+    static void allOfALog() {
+        WarmRods x = plain(0, 20);
+        x.set(ROD, 1);
+        x.pass(14, 1000, 1, 1); // 6: off by 21, set, and 0 to 7 are all off the tray
+        x.pass(23, 1000, 1, 1); // -3: off by -10
+        x.pass(24, 1000, 1, 2); // -4: off by -25, set, and 0 is laid; then -3
+        x.pass(19, 1000, 0, 1); // 2
+        long[] due = {NO_RATE + 6, NO_RATE - 4, 2, 2, 1};
+        for (int what = 0; what < 5; what++) {
+            due("ofLog(" + what + ")", x.ofLog(what), due[what]);
+        }
+    }
+
+    @Says(where = "Promise 9", words = "`what`: 0 the greatest rate and 100000")
     static void greatestRate() {
         due("all slow, the first", hoursOf(-1, -2, -3).ofLog(0), NO_RATE - 1);
         due("all slow, the last", hoursOf(-3, -2, -1).ofLog(0), NO_RATE - 1);

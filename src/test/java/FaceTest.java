@@ -10,16 +10,20 @@ import java.util.Arrays;
 import java.util.List;
 import java.util.Set;
 import java.util.TreeSet;
+import java.util.regex.Matcher;
 import java.util.regex.Pattern;
 
 /** Looks at the class itself: its face as the document has it, and the rules of LANGUAGE.md that can be seen. */
 public final class FaceTest {
-    private static final List<String> METHODS = List.of("int set(int,int)", "int weight(int)", "int pass(int,int,int,int)",
-        "int zero()", "int hour(int,int)", "int count(int)", "long meanRate()", "int ofLog(int)", "int rate(int,int)",
-        "int bestWeights(int,int,int)", "int offIn(int,int)", "int replay()", "int coolest(int)", "int put(long)",
-        "int wipe()", "int fault()", "int carryOut()", "int undo()", "int save(int)", "int restore(int)");
-    private static final List<String> CONSTANTS = List.of("NO_SUCH", "BAD_VALUE", "BAD_TEXT", "TOO_MANY", "NOT_POSSIBLE",
-        "NONE", "ROD", "AIR", "BASE", "LIMIT");
+    private static final Pattern CLASS = Pattern.compile("public final class WarmRods \\{|}|");
+    private static final Pattern CONSTANTS = Pattern.compile("public static final int (.*);");
+    private static final Pattern CONSTRUCTOR = Pattern.compile("public WarmRods\\(\\);");
+    private static final Pattern METHOD = Pattern.compile("public (int|long) (\\w+)\\((.*)\\);");
+
+    /** What the document's face has: the methods as "int set(int,int)", the constants as "NO_SUCH = -1". */
+    private static final Set<String> METHODS_DUE = new TreeSet<>();
+    private static final Set<String> CONSTANTS_DUE = new TreeSet<>();
+
     // Words that no file within the rules holds: 1 (no package), 2 (method references), 3 and 4 (the library), 5, 6, 10
     // and 13. A comment that needs such a word finds another one.
     private static final List<String> RULED_OUT = List.of("package", "finally", "synchronized", "assert", "::", "\\w+Exact",
@@ -36,6 +40,7 @@ public final class FaceTest {
     }
 
     public static void main(String[] args) throws Exception {
+        readFace(Document.read().textOf("The public face"));
         face();
         for (Class<?> part : parts()) {
             part(part);
@@ -53,7 +58,25 @@ public final class FaceTest {
         return parts;
     }
 
-    private static void face() {
+    private static void readFace(String text) {
+        for (String line : text.split("\n")) {
+            String shown = line.strip();
+            Matcher constants = CONSTANTS.matcher(shown);
+            Matcher method = METHOD.matcher(shown);
+            if (constants.matches()) {
+                CONSTANTS_DUE.addAll(List.of(constants.group(1).split(", ")));
+            } else if (method.matches()) {
+                String parameters = method.group(3).replaceAll("(int|long) \\w+", "$1").replace(", ", ",");
+                METHODS_DUE.add(method.group(1) + " " + method.group(2) + "(" + parameters + ")");
+            } else {
+                due(CLASS.matcher(shown).matches() || CONSTRUCTOR.matcher(shown).matches(), "a line of the face: " + line);
+            }
+        }
+        due(METHODS_DUE.size() == 20, "20 methods in the document, not " + METHODS_DUE.size());
+        due(CONSTANTS_DUE.size() == 10, "10 constants in the document, not " + CONSTANTS_DUE.size());
+    }
+
+    private static void face() throws IllegalAccessException {
         int shown = Modifier.PUBLIC | Modifier.PROTECTED;
         due((WarmRods.class.getModifiers() & (Modifier.PUBLIC | Modifier.FINAL)) == (Modifier.PUBLIC | Modifier.FINAL),
             "public and final");
@@ -64,21 +87,22 @@ public final class FaceTest {
         Set<String> methods = new TreeSet<>();
         for (Method method : WarmRods.class.getDeclaredMethods()) {
             if (!Modifier.isPrivate(method.getModifiers()) && !method.isSynthetic()) {
-                due(Modifier.isPublic(method.getModifiers()), "public: " + method);
+                due((method.getModifiers() & ~Modifier.FINAL) == Modifier.PUBLIC, "public, and no more: " + method);
+                due(method.getExceptionTypes().length == 0, "throws nothing: " + method);
                 methods.add(method.getReturnType() + " " + method.getName() + Arrays.toString(method.getParameterTypes())
                     .replace("[", "(").replace("]", ")").replace(" ", ""));
             }
         }
-        due(methods.equals(new TreeSet<>(METHODS)), "the methods of the face, not " + methods);
+        due(methods.equals(METHODS_DUE), "the methods of the face, not " + methods);
         Set<String> constants = new TreeSet<>();
         for (Field field : WarmRods.class.getDeclaredFields()) {
             if (!Modifier.isPrivate(field.getModifiers())) {
                 due(field.getModifiers() == (Modifier.PUBLIC | Modifier.STATIC | Modifier.FINAL), "constant: " + field);
                 due(field.getType() == int.class, "int: " + field);
-                constants.add(field.getName());
+                constants.add(field.getName() + " = " + field.getInt(null));
             }
         }
-        due(constants.equals(new TreeSet<>(CONSTANTS)), "the constants of the face, not " + constants);
+        due(constants.equals(CONSTANTS_DUE), "the constants of the face, not " + constants);
         due(WarmRods.class.getDeclaredClasses().length <= 13, "some twelve classes");
     }
 
@@ -96,7 +120,7 @@ public final class FaceTest {
         for (Method method : part.getDeclaredMethods()) {
             due(method.getParameterCount() <= 7, "seven parameters: " + method);
             boolean isOwn = isInside || Modifier.isPrivate(method.getModifiers());
-            due(!isOwn || METHODS.stream().noneMatch(m -> m.contains(" " + method.getName() + "(")),
+            due(!isOwn || METHODS_DUE.stream().noneMatch(m -> m.contains(" " + method.getName() + "(")),
                 "a name of its own: " + method);
         }
     }
